@@ -669,7 +669,6 @@ public final class HearingBoards {
         final Text[] texts = new Text[16];
         int size;
         /** Used again by every rule: rules are asked for far more often than texts are made. */
-        private final int[] names = new int[4];
         private final Stack stack = new Stack();
 
         /** Texts never change, so that books and their image may share them. */
@@ -707,12 +706,7 @@ public final class HearingBoards {
 
         int ruleOf(int offence, int key, int day, int a, int b, int c, int d) {
             Text text = textAt(countingText(offence, key, day));
-            if (text == null) return held(key, unwritten(key, a));
-            names[0] = a;
-            names[1] = b;
-            names[2] = c;
-            names[3] = d;
-            return held(key, text.value(names, stack));
+            return held(key, text == null ? unwritten(key, a) : text.value(stack, a, b, c, d));
         }
 
         private static int unwritten(int key, int a) {
@@ -765,15 +759,14 @@ public final class HearingBoards {
             return key == forKey && day <= onDay && (offence == forOffence || offence == ALL_OFFENCES);
         }
 
-        int value(int[] names, Stack stack) {
+        int value(Stack stack, int a, int b, int c, int d) {
             stack.clear();
             for (int i = 0; i < codes.length; i++) {
                 int code = codes[i];
                 if (code >= 0) {
                     stack.push(code);
                 } else if (code >= LAST_NAME) {
-                    int name = FIRST_NAME - code;
-                    stack.push(name < names.length ? names[name] : 0);
+                    stack.push(named(FIRST_NAME - code, a, b, c, d));
                 } else if (code == -'!') {
                     stack.push(stack.pop() == 0 ? 1 : 0);
                 } else {
@@ -783,6 +776,19 @@ public final class HearingBoards {
                 }
             }
             return stack.pop();
+        }
+
+        private static int named(int name, int a, int b, int c, int d) {
+            switch (name) {
+                case 0:
+                    return a;
+                case 1:
+                    return b;
+                case 2:
+                    return c;
+                default:
+                    return d;
+            }
         }
 
         private static int joined(int left, int sign, int right) {
