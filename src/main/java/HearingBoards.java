@@ -184,7 +184,6 @@ public final class HearingBoards {
         tape.size = 0;
         if (bad) return BAD;
         if (fault != TextReader.NO_FAULT) return -100 - fault;
-        if (books.law.isFull()) return FULL;
         return books.law.enact(reader.made(offence, day));
     }
 
@@ -548,7 +547,7 @@ public final class HearingBoards {
             return before;
         }
 
-        /** One more row; columns behind the fourth are 0, whatever an undone row left there. */
+        /** One more row, for callers that saw that it is not full; columns behind the fourth are 0. */
         int more(int a, int b, int c, int d) {
             int row = size;
             size++;
@@ -677,10 +676,7 @@ public final class HearingBoards {
             for (int i = 0; i < texts.length && i < other.texts.length; i++) texts[i] = other.texts[i];
         }
 
-        boolean isFull() {
-            return size >= texts.length;
-        }
-
+        /** The number of the text; FULL. */
         int enact(Text text) {
             if (size < 0 || size >= texts.length) return FULL;
             texts[size] = text;

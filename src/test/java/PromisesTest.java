@@ -579,7 +579,7 @@ public final class PromisesTest {
         Object[][] rows = {
             {"", 0}, {" ", 1}, {"   ", 3}, {"first", 5}, {"first ", 6}, {"fist t", 0}, {" fist t", 1}, {"firstt", 0}, {"first2", 5},
             {"12", 0}, {"t", 0}, {"!", 0}, {"First t", 0}, {"first T", 6}, {"first t t", 8}, {"first t2", 7}, {"first 2t", 7},
-            {"first tc", 6}, {"first v", 6}, {"notice t", 7}, {"let t", 4}, {"let w", 4}, {"again d", 6}, {"unwind w", 7},
+            {"first tc", 6}, {"first tz", 6}, {"first ta", 6}, {"first t{", 7}, {"first t`", 7}, {"first 1:", 7}, {"first v", 6}, {"notice t", 7}, {"let t", 4}, {"let w", 4}, {"again d", 6}, {"unwind w", 7},
             {"first 12345", 6}, {"first 1234 5", 11}, {"first 00001", 6}, {"first t+", 8}, {"first t +  ", 11}, {"first +t", 6},
             {"first t<c<h", 9}, {"first t<c=h", 9}, {"first (t<c", 10}, {"first t)", 7}, {"first ()", 7}, {"first (t))", 9},
             {"first t!", 7}, {"first t&&c", 8}, {"first t<>c", 8}, {"first t\nc", 7}, {"first t,c", 7}, {"first\tt", 5},
@@ -969,6 +969,11 @@ public final class PromisesTest {
         due(x.cause(0), NO);
         HearingBoards y = out();
         due(y.cause(0), NO);
+        HearingBoards z = new HearingBoards();
+        z.person(0, 0, 0, 0);
+        z.paper(3, 0, 0);
+        z.paper(1, 0, 1);
+        due(z.cause(0), 0);
     }
 
     private static void puts() {
