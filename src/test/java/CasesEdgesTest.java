@@ -84,6 +84,12 @@ public final class CasesEdgesTest extends Edges {
     }
 
     private static void told() {
+        promise(3, "Of a CASE: what 0 OFFENCE, 1 PRISON, 2 MARKS, 3 STATE, 4 VICTIMS (1, 0), 5 TOTAL");
+        int[][] want = {{0, 0, 1, 1, 0, 0}, {0, 0, 3, 0, 1, 37}, {1, 1, 255, 0, 0, 0}, {2, 5, 0, 2, 1, 0}};
+        for (int i = 0; i < 4; i++) {
+            for (int what = 0; what < 6; what++) due(rich().told(i, what), want[i][what]);
+        }
+
         promise(3, "6 how often heard (LET, UNWOUND ones too)");
         HearingBoards x = ready(1);
         due(x.told(0, 6), 0);

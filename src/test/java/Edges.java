@@ -24,6 +24,7 @@ abstract class Edges {
 
     private static final String DOCUMENT = document();
     private static final Set<Integer> PROMISES = new TreeSet<>();
+    private static final int MOST_TOLD = 30;
 
     private static String sentence = "";
     private static int sentences;
@@ -65,7 +66,7 @@ abstract class Edges {
 
     private static void complain(String what) {
         wrong++;
-        System.out.println(sentence + ": " + what);
+        if (wrong <= MOST_TOLD) System.out.println(sentence + ": " + what);
     }
 
     static void due(int got, int want) {
@@ -113,7 +114,10 @@ abstract class Edges {
         if (got.size() != want.size()) complain("behind answer " + step + " there is more, or less, to read");
     }
 
-    /** All that the face lets see: now, of what is used up by looking, of the image, and of the days to come. */
+    /**
+     * All that the face lets see: now, of what is used up by looking, of the image, and of the days to come. That is
+     * more than 512 calls, behind which the document leaves answers free; this class goes on as before.
+     */
     private static List<String> readOut(HearingBoards x) {
         List<String> row = new ArrayList<>();
         look(x, row);
@@ -198,7 +202,8 @@ abstract class Edges {
     }
 
     static HearingBoards toDay(HearingBoards x, int day) {
-        while (x.count(TODAY) < day) x.run(Math.min(60, day - x.count(TODAY)));
+        for (int i = 0; i < 60 && x.count(TODAY) < day; i++) x.run(Math.min(60, day - x.count(TODAY)));
+        if (x.count(TODAY) < day) complain("day " + day + " does not come");
         return x;
     }
 
@@ -255,6 +260,28 @@ abstract class Edges {
         return until(30, SPANS, x, y -> y.flee(person) + y.caught(person));
     }
 
+    /** As many of all as there may be, but of what an image does not keep. */
+    static HearingBoards fillAll(HearingBoards x) {
+        until(12, CASES, x, y -> y.person(y.count(CASES) % 8, y.count(CASES) % 6, 3, 1));
+        until(9, MEMBERS, x, y -> y.member(0, 63));
+        until(16, TEXTS, x, y -> law(y, y.count(TEXTS) == 0 ? "let 1" : "notice 0"));
+        until(24, SENTENCES, x, y -> y.sentence(y.count(SENTENCES) % 12, 1, 1));
+        until(20, GAPS, x, y -> y.gap(0, 50, 60));
+        until(40, CREDITS, x, y -> y.credit(y.count(CREDITS) % 12, y.count(CREDITS) % 2 == 0 ? 9 : -1));
+        until(20, DOUBLES, x, y -> y.twice(0, 1));
+        for (int i = 0; i < 12; i++) {
+            x.paper(1, i, 7);
+            x.paper(3, i, 6);
+        }
+        until(40, PAPERS, x, y -> y.paper(4, 0, 9));
+        until(29, SPANS, x, y -> y.flee(0) + y.caught(0));
+        for (int i = 0; i < 12; i++) x.hearing(i, 6);
+        x.seed(999);
+        x.table(2, 1, 100);
+        x.table(2, 0, 50);
+        return toDay(x, 7);
+    }
+
     /** Cases of rich. */
     static final int R_OUT = 0, R_IN = 1, R_FLED = 2, R_GONE = 3;
 
@@ -279,11 +306,12 @@ abstract class Edges {
         x.gap(R_IN, 11, 14);
         x.credit(R_IN, -9);
         x.hearing(R_IN, 20);
-        x.twice(1, 1);
+        x.twice(1, 0);
         return feed(x, "let 1234+r");
     }
 
-    private static HearingBoards kept() {
+    /** As rich was when its image was kept, on day 10: nothing waits, and the tape is empty. */
+    static HearingBoards kept() {
         HearingBoards x = new HearingBoards();
         x.person(0, 0, 1, 0);
         x.person(0, 0, 3, 1);

@@ -35,7 +35,7 @@ public final class HearingsEdgesTest extends Edges {
     // ---- papers
 
     private static void paper() {
-        promise(22, "BAD: kind, case, a (of a NOTICE a DAY from TODAY on, 9999 at most); FULL.");
+        promise(22, "One more PAPER: its number. BAD: kind, case, a (of a NOTICE a DAY from TODAY on, 9999 at most); FULL.");
         int[][] edges = {{0, 0, 0}, {1, 1, 999}, {2, 1, 999}, {3, 12, 9999}, {4, 0, 9}};
         for (int[] row : edges) {
             for (int person = 0; person < 4; person++) {
@@ -65,7 +65,7 @@ public final class HearingsEdgesTest extends Edges {
     }
 
     private static void paperTold() {
-        promise(23, "3 the DAY on which it came, 4 the last DAY that it holds (of REPORTS, TAPES; NONE). BAD.");
+        promise(23, "Of a PAPER: what 0 KIND, 1 its CASE, 2 a, 3 the DAY on which it came, 4 the last DAY that it holds (of REPORTS, TAPES; NONE). BAD.");
         HearingBoards x = toDay(people(2), 6);
         int[][] rows = {{0, 0, NONE}, {1, 1, 6}, {1, 2, 7}, {2, 1, 6}, {2, 999, 1004}, {3, 6, NONE}, {4, 9, NONE}};
         for (int i = 0; i < rows.length; i++) {
@@ -193,7 +193,7 @@ public final class HearingsEdgesTest extends Edges {
     // ---- hearings
 
     private static void hearing() {
-        promise(29, "BAD: case, day (TODAY .. 2999); NO: the CASE is not IN, or has one that is SET; FULL.");
+        promise(29, "A HEARING is SET: its number. BAD: case, day (TODAY .. 2999); NO: the CASE is not IN, or has one that is SET; FULL.");
         HearingBoards x = toDay(people(3), 7);
         due(x.hearing(0, 6), BAD);
         due(x.hearing(0, 3000), BAD);

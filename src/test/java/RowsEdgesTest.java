@@ -105,7 +105,7 @@ public final class RowsEdgesTest extends Edges {
         due(x.count(SEED), 0);
         for (int v : new int[] {LEAST, -1, 65536, MOST}) refused(BAD, Edges::rich, y -> y.seed(v));
 
-        promise(41, "MEMBERS of the first as bits, and 512 times those of the second. NO: there are fewer than six MEMBERS.");
+        promise(41, "Two BOARDS are drawn: MEMBERS of the first as bits, and 512 times those of the second. NO: there are fewer than six MEMBERS.");
         refused(NO, () -> new HearingBoards(), y -> y.draw());
         refused(NO, RowsEdgesTest::fiveMembers, y -> y.draw());
         HearingBoards six = fiveMembers();
@@ -309,6 +309,12 @@ public final class RowsEdgesTest extends Edges {
         for (int[] row : ones) due(x.same(0, row[0]), row[1]);
         x.sheet(0, -1, 0);
         due(x.same(0, -1), 2);
+        HearingBoards four = new HearingBoards();
+        for (int i = 0; i < 4; i++) {
+            four.sheet(i, i % 3, 24);
+            four.add(i, 23, 5);
+            due(four.same(23, 5), i + 1);
+        }
         HearingBoards wide = new HearingBoards();
         wide.sheet(0, 2, 1);
         wide.add(0, 0, MOST);
@@ -460,28 +466,6 @@ public final class RowsEdgesTest extends Edges {
         HearingBoards x = new HearingBoards();
         x.keep();
         return x;
-    }
-
-    /** As many of all as there may be, but of what an image does not keep. */
-    private static HearingBoards fillAll(HearingBoards x) {
-        until(12, CASES, x, y -> y.person(y.count(CASES) % 8, y.count(CASES) % 6, 3, 1));
-        until(9, MEMBERS, x, y -> y.member(0, 63));
-        until(16, TEXTS, x, y -> law(y, y.count(TEXTS) == 0 ? "let 1" : "notice 0"));
-        until(24, SENTENCES, x, y -> y.sentence(y.count(SENTENCES) % 12, 1, 1));
-        until(20, GAPS, x, y -> y.gap(0, 50, 60));
-        until(40, CREDITS, x, y -> y.credit(y.count(CREDITS) % 12, y.count(CREDITS) % 2 == 0 ? 9 : -1));
-        until(20, DOUBLES, x, y -> y.twice(0, 1));
-        for (int i = 0; i < 12; i++) {
-            x.paper(1, i, 7);
-            x.paper(3, i, 6);
-        }
-        until(40, PAPERS, x, y -> y.paper(4, 0, 9));
-        until(29, SPANS, x, y -> y.flee(0) + y.caught(0));
-        for (int i = 0; i < 12; i++) x.hearing(i, 6);
-        x.seed(999);
-        x.table(2, 1, 100);
-        x.table(2, 0, 50);
-        return toDay(x, 7);
     }
 
     private static void count() {

@@ -145,6 +145,10 @@ public final class TermsEdgesTest extends Edges {
         HearingBoards all = people(1);
         for (int i = 0; i < 20; i++) all.gap(0, 9998 - 2 * i, 9999 - 2 * i);
         due(all.served(0, 9999), 9979);
+        HearingBoards apart = people(1);
+        for (int i = 20; i > 0; i--) apart.gap(0, 5 * i, 5 * i + 2);
+        due(apart.served(0, 110), 70);
+        due(apart.served(0, 9999), 9959);
         HearingBoards chained = people(1);
         for (int i = 20; i > 0; i--) chained.gap(0, 3 * i, 3 * i + 4);
         due(chained.served(0, 9999), 9999 - 61);
@@ -263,6 +267,15 @@ public final class TermsEdgesTest extends Edges {
             refused(BAD, Edges::rich, z -> z.paper(row[0], 0, row[1] - 1));
             refused(BAD, Edges::rich, z -> z.paper(row[0], 0, row[2] + 1));
         }
+
+        terms("They came on the DAY on which they were told.");
+        HearingBoards came = people(1);
+        for (int day : new int[] {0, 1, 2999}) {
+            int paper = toDay(came, day).paper(1, 0, 1);
+            due(came.paperTold(paper, 3), day);
+            due(came.paperTold(paper, 4), day);
+        }
+        due(came.paperTold(0, 3), 0);
     }
 
     private static void boards() {
@@ -409,6 +422,25 @@ public final class TermsEdgesTest extends Edges {
         for (int i = 0; i < 4; i++) due(z.heard(i, 4), causes[i]);
         due(z.heard(3, 2), 1);
         due(z.is(0, 3), 1);
+        // a conflict with any one on the list is in the way, one with anybody else is not
+        int[] states = {1, 0, 0, 0, 1, 1};
+        for (int person = 0; person < 6; person++) due(heardWithConflict(person), states[person]);
+    }
+
+    /** Of hearings of cases 1, 2, 3 in prison 0 (0 is put off, 4 in another prison, 5 without a hearing) the state of the last. */
+    private static int heardWithConflict(int person) {
+        HearingBoards x = ready(6);
+        x.be(4, 1, 1);
+        for (int i = 0; i < 5; i++) {
+            if (i != 0) x.paper(3, i, 0);
+            x.hearing(i, 0);
+        }
+        x.conflict(1, person, 1);
+        x.run(1);
+        due(x.heard(1, 2), x.heard(3, 2));
+        due(x.heard(0, 4), 3);
+        due(x.heard(4, 2), person == 4 ? 0 : 1);
+        return x.heard(3, 2);
     }
 
     private static void puttingOff() {
@@ -433,6 +465,36 @@ public final class TermsEdgesTest extends Edges {
         late.run(1);
         due(late.heard(0, 1), 3026);
         due(late.told(0, 9), 0);
+    }
+
+    private static void order() {
+        terms("A DAY, in this order: PRISON by PRISON first (a), then (b)");
+        HearingBoards x = ready(3);
+        times(3, () -> x.member(0, 63));
+        x.be(0, 1, 5);
+        x.be(1, 1, 0);
+        x.be(2, 1, 3);
+        for (int i = 0; i < 3; i++) {
+            x.paper(3, i, 0);
+            x.hearing(i, 0);
+        }
+        // by prisons (0, 3, 5) the cases 1, 2, 0: members 0 to 2 hear case 1, 3 to 5 case 2, 0 to 2 again case 0
+        x.conflict(0, 2, 1);
+        x.conflict(5, 0, 1);
+        x.run(1);
+        for (int i = 0; i < 3; i++) due(x.heard(i, 2), 1);
+        int[] turns = {2, 2, 2, 1, 1, 1};
+        for (int i = 0; i < 6; i++) due(x.is(i, 3), turns[i]);
+
+        terms("(d) TODAY is 1 more.");
+        due(x.count(TODAY), 1);
+        due(x.run(1), 2);
+        HearingBoards put = people(1);
+        law(put, "again 1");
+        put.hearing(0, 0);
+        due(put.run(5), 5);
+        due(put.heard(0, 3), 5);
+        due(put.heard(0, 1), 5);
     }
 
     private static void holding() {
@@ -542,6 +604,13 @@ public final class TermsEdgesTest extends Edges {
         hear(other, 1);
         due(other.unwind(0), 0);
 
+        terms("it is VOID, the CASE IN; a SPAN begins TODAY");
+        due(other.heard(0, 2), 3);
+        due(other.told(0, 3), 0);
+        due(other.told(1, 3), 1);
+        due(other.served(0, 2), 0);
+        due(other.served(0, 3), 1);
+
         terms("or, if unwind is not 0 (d DAYS since the DAY of the HEARING), its latest SPAN goes on as if it had not ended");
         HearingBoards y = out();
         law(y, "unwind d=3");
@@ -557,7 +626,7 @@ public final class TermsEdgesTest extends Edges {
         law(below, "unwind 0-d");
         due(below.unwind(0), 1);
         HearingBoards again = toDay(out(), 5);
-        law(again, "unwind 1");
+        law(again, "unwind d=4");
         again.recall(0);
         toDay(again, 8);
         hear(again, 0);
@@ -583,6 +652,19 @@ public final class TermsEdgesTest extends Edges {
         other.person(1, 0, 0, 0);
         hear(other, 0);
         due(other.like(1, 0), 0);
+
+        terms("how many HEARINGS of theirs were HEARD or LET, how many LET");
+        HearingBoards states = ready(2);
+        int[][] rows = {{0, 0}, {0, 0}, {1, 0}, {2, 1}, {1, 0}};
+        for (int i = 0; i < rows.length; i++) {
+            if (i == 1) states.hearing(1, 0);
+            if (i == 2) states.paper(3, 1, 0);
+            if (i == 2) states.run(1);
+            if (i == 3) law(states, "let 1");
+            if (i == 3) hear(states, 1);
+            if (i == 4) states.unwind(1);
+            for (int what = 0; what < 2; what++) due(states.like(0, what), rows[i][what]);
+        }
 
         terms("THE SHARE of these in hundredths (cut; NONE: none was HEARD)");
         HearingBoards y = ready(2);
@@ -626,7 +708,7 @@ public final class TermsEdgesTest extends Edges {
         all.twice(0, 1);
         due(all.spread(), 100);
 
-        terms("SEED (0 .. 65535) becomes 25173 times it and 13849, its rest by 65536, for each draw");
+        terms("SEED (0 .. 65535) becomes 25173 times it and 13849, its rest by 65536, for each draw; of those left the one whose place (by numbers) is its rest by how many are left: three for the first board, three for the second one");
         int[] seeds = {0, 1, 32768, 65534, 65535};
         for (int seed : seeds) {
             HearingBoards z = until(6, MEMBERS, new HearingBoards(), w -> w.member(0, 0));
@@ -683,6 +765,11 @@ public final class TermsEdgesTest extends Edges {
             x.run(9);
             x.person(0, 0, 0, 0);
         }
+        HearingBoards as = rich();
+        as.restore();
+        as.trim(0);
+        as.check(1);
+        alike(as, kept());
         HearingBoards one = rich();
         HearingBoards other = rich();
         one.restore();
@@ -701,6 +788,15 @@ public final class TermsEdgesTest extends Edges {
         int[] days = {2, 0, 3, 1, 4, 1};
         for (int v : days) y.tell(v);
         due(y.check(3), 0);
+
+        terms("(nobody doing anything)");
+        y.recall(0);
+        y.gone(1);
+        y.run(3);
+        for (int v : days) y.tell(v);
+        due(y.check(3), 0);
+        due(y.count(TODAY), 3);
+        due(y.told(1, 3), 2);
         HearingBoards nobody = new HearingBoards();
         nobody.keep();
         nobody.tell(0);
@@ -720,6 +816,7 @@ public final class TermsEdgesTest extends Edges {
         hearings();
         causes();
         puttingOff();
+        order();
         holding();
         risks();
         returning();

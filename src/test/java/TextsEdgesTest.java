@@ -87,6 +87,14 @@ public final class TextsEdgesTest extends Edges {
             fault(KEYS[key], KEYS[key].length());
             fault(KEYS[key] + " " + KEYS[key] + " 1", KEYS[key].length() + 1);
         }
+        for (String key : KEYS) {
+            for (int i = 0; i < key.length(); i++) {
+                for (String c : new String[] {"", "x", "E", " "}) {
+                    String other = key.substring(0, i) + c + key.substring(i + 1) + " 1";
+                    fault(other, c.isBlank() && i == 0 ? c.length() : 0);
+                }
+            }
+        }
         fault("", 0);
         fault("1", 0);
         fault("(let 1)", 0);
@@ -249,9 +257,14 @@ public final class TextsEdgesTest extends Edges {
         value("0/0", 0);
         value("r/0", 0);
         value("7/s+3", 3);
+
+        terms("/ cuts towards 0");
         value("(0-7)/2", -3);
         value("7/(0-2)", -3);
         value("1/2", 0);
+        value("(0-1)/2", 0);
+        value("(0-1)/(0-2)", 0);
+        value("(0-4)/2", -2);
 
         terms("tests, & | ! give 1 or 0 (what is not 0 is true; both sides are worked out)");
         value("r<h", 1);
@@ -277,6 +290,8 @@ public final class TextsEdgesTest extends Edges {
         value("0&0|1", 1);
         value("0&1=0", 0);
         value("2=1+1", 1);
+
+        terms("SUM: TERM { (+ | -) TERM }; TERM: PART { (* | /) PART }; PART: NUMBER (1 to 4 digits) | NAME | ! PART | ( E )");
         value("1+2*3", 7);
         value("8-4-2", 2);
         value("64/8/2", 4);
@@ -404,6 +419,18 @@ public final class TextsEdgesTest extends Edges {
         due(h.due(0, 9), 0);
         due(h.due(0, 10), 1);
 
+        terms("DATE: the first DAY from TODAY on on which it would be DUE");
+        HearingBoards past = people(1);
+        law(past, "first 5");
+        due(past.date(0), 5);
+        due(toDay(past, 4).date(0), 5);
+        due(toDay(past, 5).date(0), 5);
+        due(toDay(past, 6).date(0), 6);
+        past.credit(0, -1);
+        due(past.date(0), 6);
+        past.credit(0, -1);
+        due(past.date(0), 7);
+
         terms("NONE: not within 3000 DAYS from TODAY on, or it is not IN");
         HearingBoards y = people(1);
         law(y, "first 2999");
@@ -510,6 +537,33 @@ public final class TextsEdgesTest extends Edges {
         refusedBut(FULL, TextsEdgesTest::fullOfTexts, x -> x.text(8, 0), x -> x.trim(0));
     }
 
+    /** What was read ahead of a text, good or not, leaves nothing behind for it. */
+    private static void oneBehindAnother() {
+        promise(18, "THE TAPE is a TEXT of an OFFENCE");
+        String[] faults = {"let abc", "let 1a", "let 12345", "let r r", "let (((r", "let !!!", "lex", "12", "let r+1" + row("*2", 40) + "?", "let r" + row("<h&r", 20) + "<h<"};
+        HearingBoards x = new HearingBoards();
+        int texts = 0;
+        for (String text : faults) {
+            due(law(x, text) <= -100 ? 1 : 0, 1);
+            due(law(x, "let " + texts + "+r"), texts);
+            due(x.of(texts, 3), 2);
+            due(x.of(texts, 0), 2);
+            due(x.rules(0, 2, 1000, 0, 0, 0), 1000 + texts);
+            texts++;
+        }
+        due(law(x, "first t"), texts);
+        due(x.of(texts, 3), 1);
+        due(x.of(texts, 0), 0);
+        due(x.rules(0, 0, 77, 0, 0, 0), 77);
+        due(x.rules(0, 2, 1000, 0, 0, 0), 999 + texts);
+        HearingBoards longOnes = new HearingBoards();
+        for (int i = 0; i < 16; i++) {
+            due(law(longOnes, "let " + i + row("+1", 42)), i);
+            due(longOnes.of(i, 3), 43);
+            due(longOnes.rules(0, 2, 0, 0, 0, 0), 42 + i);
+        }
+    }
+
     private static HearingBoards fullOfTexts() {
         return feed(until(16, TEXTS, rich(), x -> law(x, "let h=0", 3, 2000)), "let 1");
     }
@@ -534,7 +588,7 @@ public final class TextsEdgesTest extends Edges {
     }
 
     private static void whyAndRules() {
-        promise(20, "the TEXT that counts for an OFFENCE (0 .. 7) and a KEY TODAY. BAD; NONE.");
+        promise(20, "WHY: the TEXT that counts for an OFFENCE (0 .. 7) and a KEY TODAY. BAD; NONE.");
         HearingBoards x = new HearingBoards();
         for (int key = 0; key < 5; key++) {
             due(x.why(0, key), NONE);
@@ -546,7 +600,7 @@ public final class TextsEdgesTest extends Edges {
         int[][] bad = {{-1, 0}, {8, 0}, {0, -1}, {0, 5}, {LEAST, 0}, {MOST, 0}, {0, LEAST}, {0, MOST}};
         for (int[] row : bad) refused(BAD, Edges::rich, y -> y.why(row[0], row[1]));
 
-        promise(21, "for told numbers in the order in which its NAMES stand above (others do not matter). BAD.");
+        promise(21, "THE RULE of an OFFENCE and a KEY TODAY, for told numbers in the order in which its NAMES stand above (others do not matter). BAD.");
         String[] texts = {"first t*100+c*10+h", "notice v", "let r*1000+h*100+c*10+s", "again w", "unwind d"};
         int[] want = {123, 1, 1234, 1, 1};
         for (int key = 0; key < 5; key++) {
@@ -574,6 +628,7 @@ public final class TextsEdgesTest extends Edges {
         dueAndDate();
         feedAndTrim();
         text();
+        oneBehindAnother();
         of();
         whyAndRules();
         finish(16, 21);
