@@ -60,6 +60,45 @@ public final class FaceTest {
         hidden(names);
     }
 
+    /** Line by line as the document writes it: constants with their values, names of what is taken, the order. */
+    private static void faceAsWritten() throws IOException {
+        String doc = Files.readString(root().resolve("../shared/DOC.md"));
+        String written = doc.substring(doc.indexOf("```java\n") + 8, doc.indexOf("```\n\n## Terms"));
+        List<String> want = publicLines(written);
+        List<String> got = publicLines(Files.readString(root().resolve("src/main/java/HearingBoards.java")));
+        must(want.size() == 52, "the document's face has " + want.size() + " lines");
+        for (int i = 0; i < Math.max(want.size(), got.size()); i++) {
+            String line = i < got.size() ? got.get(i) : "nothing";
+            must(i < want.size() && line.equals(want.get(i)), "the face has " + line + ", not " + (i < want.size() ? want.get(i) : "nothing"));
+        }
+        headings(doc, Files.readString(root().resolve("src/main/java/HearingBoards.java")));
+    }
+
+    private static List<String> publicLines(String text) {
+        List<String> lines = new ArrayList<>();
+        for (String line : text.split("\n")) {
+            if (line.strip().startsWith("public ")) lines.add(line.replaceFirst("( \\{|;)$", ""));
+        }
+        return lines;
+    }
+
+    /** 'Ahead of the calls .. the interface says: ---- ..' */
+    private static void headings(String doc, String source) {
+        Matcher ahead = Pattern.compile("^Ahead of the calls (.*) the interface says: (---- .*)\\.$", Pattern.MULTILINE).matcher(doc);
+        int many = 0;
+        while (ahead.find()) {
+            many++;
+            int from = source.indexOf("    // " + ahead.group(2) + "\n");
+            must(from >= 0, "the source does not say " + ahead.group(2));
+            int to = source.indexOf("    // ----", from + 1);
+            List<String> calls = new ArrayList<>();
+            Matcher call = Pattern.compile("^    public int (\\w+)\\(", Pattern.MULTILINE).matcher(source.substring(Math.max(0, from), Math.max(0, to)));
+            while (call.find()) calls.add("`" + call.group(1) + "`");
+            must(String.join(", ", calls).equals(ahead.group(1)), "behind " + ahead.group(2) + " stand " + calls);
+        }
+        must(many == 6, "the document has " + many + " headings");
+    }
+
     private static void hidden(Set<String> names) {
         List<Class<?>> all = new ArrayList<>(Arrays.asList(HearingBoards.class.getDeclaredClasses()));
         must(all.size() <= 12, "there are " + all.size() + " classes inside");
@@ -127,6 +166,7 @@ public final class FaceTest {
 
     public static void main(String[] args) throws IOException, ReflectiveOperationException {
         face();
+        faceAsWritten();
         source();
         oddNumbers();
         System.out.println(wrong == 0 ? "the face and the language are as told" : wrong + " things are not as told");
