@@ -53,6 +53,11 @@ abstract class Edges {
         if (at < 0 || to >= 0 && at > to) complain("does not stand in the document");
     }
 
+    /** The next answers are about these words of what stands ahead of the face. */
+    static void atFirst(String words) {
+        says("## What it is", "## The public face", words);
+    }
+
     /** The next answers are about these words of the document's terms. */
     static void terms(String words) {
         says("## Terms", "## Promise 1:", words);
@@ -64,7 +69,7 @@ abstract class Edges {
         says("## Promise " + number + ":", "## ", words);
     }
 
-    private static void complain(String what) {
+    static void complain(String what) {
         wrong++;
         if (wrong <= MOST_TOLD) System.out.println(sentence + ": " + what);
     }

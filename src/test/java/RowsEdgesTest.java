@@ -382,7 +382,7 @@ public final class RowsEdgesTest extends Edges {
         }
         due(missing.check(30), 59);
 
-        promise(47, "THE DAYS TOLD of n DAYS (1 .. 30; also beyond DAY 2999)");
+        promise(47, "are THE DAYS TOLD of n DAYS (1 .. 30; also beyond DAY 2999)");
         due(waiting(2998, 2999, 0, 3000, 0, 3001, 0).check(3), 0);
         HearingBoards beyond = waiting(2999);
         for (int i = 1; i <= 30; i++) {

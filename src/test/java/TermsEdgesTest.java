@@ -4,7 +4,7 @@ public final class TermsEdgesTest extends Edges {
     // ======== 1: days, cases, time
 
     private static void days() {
-        terms("TODAY is 0 at first (2999 at most)");
+        terms("DAYS are numbered; TODAY is 0 at first (2999 at most)");
         HearingBoards x = new HearingBoards();
         due(x.count(TODAY), 0);
         due(toDay(x, 2998).run(1), 2999);
@@ -29,7 +29,7 @@ public final class TermsEdgesTest extends Edges {
         due(x.told(11, 3), 0);
         due(x.told(12, 3), BAD);
 
-        terms("an OFFENCE 0 .. 7, a PRISON 0 .. 5, MARKS (bits 0 .. 255), a STATE: 0 IN (at first), 1 OUT (let), 2 GONE");
+        terms("an OFFENCE 0 .. 7, a PRISON 0 .. 5, MARKS (bits 0 .. 255), a STATE: 0 IN (at first), 1 OUT (let), 2 GONE (dead, or moved abroad)");
         HearingBoards y = new HearingBoards();
         due(y.person(0, 0, 0, 0), 0);
         due(y.person(7, 5, 255, 1), 1);
@@ -358,7 +358,7 @@ public final class TermsEdgesTest extends Edges {
     }
 
     private static void causes() {
-        terms("of HEARINGS that are SET for TODAY (by numbers) whose CASE is IN, and in that PRISON");
+        terms("(a) of HEARINGS that are SET for TODAY (by numbers) whose CASE is IN, and in that PRISON");
         HearingBoards set = ready(1);
         set.paper(3, 0, 5);
         set.hearing(0, 5);
@@ -498,7 +498,7 @@ public final class TermsEdgesTest extends Edges {
     }
 
     private static void holding() {
-        terms("if there is a LIST, THE BOARD has a TURN more each; each on THE LIST, by numbers, is HEARD");
+        terms("(b) if there is a LIST, THE BOARD has a TURN more each; each on THE LIST, by numbers, is HEARD");
         HearingBoards x = ready(3);
         x.be(2, 1, 5);
         for (int i = 0; i < 3; i++) {
